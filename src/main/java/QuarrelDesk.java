@@ -454,18 +454,18 @@ public final class QuarrelDesk {
 
     private boolean fitsAllSeen(int couple, int temper) {
         for (int i = 0; i < seenMany && i < SEEN_MOST; i++) {
-            if (seenCouples[i] == couple && !fitsSeen(i, temper)) {
+            if (seenCouples[i] == couple && !fits(couple, temper, seenDays[i], seenStrains[i])) {
                 return false;
             }
         }
         return true;
     }
 
-    private boolean fitsSeen(int i, int temper) {
-        tried.copy(now.lives[seenCouples[i]]);
+    private boolean fits(int couple, int temper, int n, int strain) {
+        tried.copy(now.lives[couple]);
         tried.temper = temper;
-        passTried(seenDays[i]);
-        return tried.strain == seenStrains[i];
+        passTried(n);
+        return tried.strain == strain;
     }
 
     private boolean breaksByVisits(int couple, int n, int visits) {
@@ -955,7 +955,8 @@ public final class QuarrelDesk {
             for (int i = 0; i < WORD_WIDTH; i++) {
                 int place = begins + i;
                 int letter = place < ends ? letterAt(place) : BLANK;
-                if (letter != WORDS.charAt(word * WORD_WIDTH + i)) {
+                int sign = word * WORD_WIDTH + i;
+                if (sign < 0 || sign >= WORDS.length() || letter != WORDS.charAt(sign)) {
                     return false;
                 }
             }
