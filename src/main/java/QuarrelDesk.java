@@ -185,7 +185,7 @@ public final class QuarrelDesk {
             return OUTSIDE;
         }
         int sum = 0;
-        for (int i = 0; i < now.couples; i++) {
+        for (int i = 0; i < now.couples && i < COUPLES_MOST; i++) {
             tryDays(i, n);
             sum += tried.paid - tried.claimed;
         }
@@ -223,7 +223,7 @@ public final class QuarrelDesk {
         int wholes = 0;
         int halves = 0;
         int claimed = 0;
-        for (int i = 0; i < now.couples; i++) {
+        for (int i = 0; i < now.couples && i < COUPLES_MOST; i++) {
             Life life = now.lives[i];
             tryDays(i, n);
             int halved = tried.halved - life.halved;
@@ -434,7 +434,7 @@ public final class QuarrelDesk {
         for (int d = 0; d < n && d < DAYS_AHEAD; d++) {
             brokenOn[d] = 0;
         }
-        for (int i = 0; i < now.couples; i++) {
+        for (int i = 0; i < now.couples && i < COUPLES_MOST; i++) {
             tried.copy(now.lives[i]);
             for (int d = 0; d < n && d < DAYS_AHEAD; d++) {
                 if (tried.pass(now.day + d, now.terms)) {

@@ -147,6 +147,13 @@ public final class SeenTest {
         }
         desk.kiss(1);
         C.due("no longer void", desk.count(5), 8);
+        Checks.days(desk, 3);
+        desk.erase();
+        Checks.written(desk, "desk").desk();
+        int[] none = {0, 0, 999999, 0, 0, 0, 0, 0, 0};
+        for (int i = 0; i < none.length; i++) {
+            C.due("behind desk: count(" + i + ")", desk.count(i), none[i]);
+        }
         C.due("count(-1)", desk.count(-1), -3);
         C.due("count(9)", desk.count(9), -3);
     }

@@ -7,6 +7,7 @@ public final class ToldTest {
         write();
         erase();
         faultsOfOneClause();
+        faultsOfWords();
         faultsBetweenClauses();
         faultsBySevenths();
         desk();
@@ -147,6 +148,19 @@ public final class ToldTest {
         fault("premiums 5", 0);
         fault("premium5", -1);
         fault("relief 12345678901234567890", 7);
+    }
+
+    private static void faultsOfWords() {
+        String[] words = {"desk", "plain", "proud", "sunday", "sulky", "excess", "cover", "premium", "tiff", "break", "relief"};
+        for (String word : words) {
+            String behind = word.equals("desk") ? "" : word.length() == 5 && word.charAt(0) == 'p' || word.charAt(0) == 's' ? " 5 5" : " 5";
+            fault(word + behind, -1);
+            fault(" " + word + "s" + behind, 1);
+            for (int i = 0; i < word.length(); i++) {
+                fault(" " + word.substring(0, i) + "q" + word.substring(i + 1) + behind, 1);
+                fault(word.substring(0, i) + word.substring(i + 1) + behind, 0);
+            }
+        }
     }
 
     private static void faultsBetweenClauses() {
