@@ -516,7 +516,7 @@ public final class QuarrelDesk {
         abstract void quarrel(Life life, int day, Terms terms);
 
         static boolean isSunday(int day) {
-            return Math.floorMod(day, 7) == 6;
+            return day % 7 == 6;
         }
     }
 

@@ -1,23 +1,16 @@
-import java.io.IOException;
 import java.lang.management.ManagementFactory;
 import java.lang.reflect.Field;
 import java.lang.reflect.Method;
 import java.lang.reflect.Modifier;
-import java.nio.file.Files;
-import java.nio.file.Path;
 import java.util.Set;
 import java.util.TreeSet;
-import java.util.regex.Matcher;
-import java.util.regex.Pattern;
 
-/** The public face, the rules of LANGUAGE.md that can be looked up in the source, the room of a call. */
+/** The public face, and the room of a call. */
 public final class FaceTest {
     private static final Checks C = new Checks();
 
-    public static void main(String[] args) throws IOException {
+    public static void main(String[] args) {
         face();
-        inside();
-        source(Files.readString(Path.of(System.getProperty("source", "src/main/java/QuarrelDesk.java"))));
         room();
         C.end();
     }
@@ -54,38 +47,6 @@ public final class FaceTest {
         C.due("constants", constants, 5);
         C.due("constructors", QuarrelDesk.class.getConstructors().length, 1);
         C.due("public and final", QuarrelDesk.class.getModifiers(), Modifier.PUBLIC | Modifier.FINAL);
-    }
-
-    private static void inside() {
-        Class<?>[] classes = QuarrelDesk.class.getDeclaredClasses();
-        C.due("some twelve classes", classes.length < 12 ? 1 : 0, 1);
-        for (Class<?> c : classes) {
-            C.due("static, not public: " + c, c.getModifiers() & (Modifier.STATIC | Modifier.PUBLIC), Modifier.STATIC);
-            int fields = 0;
-            for (Field f : c.getDeclaredFields()) {
-                boolean isShared = Modifier.isStatic(f.getModifiers());
-                fields += isShared ? 0 : 1;
-                C.due("a static field is final: " + f, isShared && !Modifier.isFinal(f.getModifiers()) ? 1 : 0, 0);
-            }
-            C.due("some twenty fields: " + c, fields <= 20 ? 1 : 0, 1);
-        }
-    }
-
-    private static void source(String source) {
-        String code = source.replaceAll("(?s)/\\*.*?\\*/", "").replaceAll("//[^\n]*", "");
-        String[] banned = {"throw", "throws", "try", "catch", "synchronized", "assert", "import", "package", "null",
-            "protected", "Object", "System", "HashMap", "record", "volatile", "native", "hashCode", "toString"};
-        for (String word : banned) {
-            C.due("no word " + word, Pattern.compile("\\b" + word + "\\b").matcher(code).find() ? 1 : 0, 0);
-        }
-        C.due("no lambda, no method reference", code.contains("->") || code.contains("::") ? 1 : 0, 0);
-        Matcher method = Pattern.compile("(?m)^( {4}| {8})(?! )[^;=\n]*\\) \\{$").matcher(code);
-        while (method.find()) {
-            String end = "\n" + method.group(1) + "}";
-            String body = code.substring(method.start(), Math.max(method.start(), code.indexOf(end, method.start())));
-            C.due("a short method: " + method.group(), body.lines().count() <= 60 ? 1 : 0, 1);
-            C.due("few parameters: " + method.group(), method.group().split(",").length <= 7 ? 1 : 0, 1);
-        }
     }
 
     /** Calls make no objects: all calls of one run live in one room. */
